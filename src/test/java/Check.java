@@ -1,0 +1,63 @@
+/** Counts and prints the answers of a test that are not the due ones. */
+final class Check {
+    /** A call that may throw. */
+    interface Call {
+        long answer();
+    }
+
+    private int wrong = 0;
+    private int calls = 0;
+
+    void due(String call, long got, long want) {
+        calls++;
+        if (got != want) {
+            wrong++;
+            System.out.println(call + " answered " + got + ", due is " + want);
+        }
+    }
+
+    void due(String call, String got, String want) {
+        calls++;
+        if (!got.equals(want)) {
+            wrong++;
+            System.out.println(call + " answered " + got + ", due is " + want);
+        }
+    }
+
+    /** The call throws exactly this kind, and the object answers afterwards as before. */
+    void refused(FairBatten x, String name, Class<?> kind, Call call) {
+        String before = seen(x);
+        due(name, told(call), kind.getName());
+        due("what is seen after " + name, seen(x), before);
+    }
+
+    /** What a call answers, or the name of what it throws. */
+    static String told(Call call) {
+        try {
+            return Long.toString(call.answer());
+        } catch (RuntimeException e) {
+            return e.getClass().getName();
+        }
+    }
+
+    /** What calls that change nothing show of an object, in few enough calls to ask it often. */
+    static String seen(FairBatten x) {
+        StringBuilder all = new StringBuilder();
+        for (int waterline = 0; waterline < 6; waterline++) {
+            all.append(x.bend(waterline)).append(' ').append(x.volume(waterline)).append(' ');
+            all.append(x.half(4, waterline)).append(' ');
+        }
+        all.append(x.draught()).append(' ').append(x.trim()).append(' ');
+        for (int strake = 0; strake < 5; strake++) {
+            all.append(x.plankOf(strake, true)).append(' ');
+        }
+        return all.append(x.needed()).append(' ').append(x.day()).toString();
+    }
+
+    void finish(String test) {
+        System.out.println(test + ": " + calls + " checks, " + wrong + " wrong");
+        if (wrong != 0 || calls == 0) {
+            System.exit(1);
+        }
+    }
+}
