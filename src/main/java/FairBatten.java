@@ -15,6 +15,7 @@ public final class FairBatten {
     private static final int MOST_TIDE = 99;
     private static final int MOST_SILL = 50;
     private static final int MOST_AHEAD = 99;
+    private static final int MOST_PASS = 99;
     private static final int LAST_TODAY = 9000;
 
     private final Hull hull;
@@ -203,7 +204,7 @@ public final class FairBatten {
     }
 
     public int pass(int days) throws IllegalArgumentException, IllegalStateException {
-        refuseOutside(days, 1, MOST_AHEAD);
+        refuseOutside(days, 1, MOST_PASS);
         if (today + days > LAST_TODAY) {
             throw new IllegalStateException("today would be above 9000");
         }

@@ -54,6 +54,10 @@ final class Check {
         return all.append(x.needed()).append(' ').append(x.day()).toString();
     }
 
+    int wrong() {
+        return wrong;
+    }
+
     void finish(String test) {
         System.out.println(test + ": " + calls + " checks, " + wrong + " wrong");
         if (wrong != 0 || calls == 0) {

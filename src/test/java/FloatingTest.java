@@ -182,6 +182,10 @@ final class FloatingTest {
         // the weight at the station 0 has no moment
         x.change(0, 0, 1);
         check.due("trim below 0", x.trim(), -714);
+        FairBatten y = new FairBatten();
+        y.offset(0, 0, 10);
+        y.weigh(0, 1);
+        check.due("trim of the least volume", y.trim(), -100);
     }
 
     private static void ballastChoice(Check check) {
@@ -189,7 +193,7 @@ final class FloatingTest {
         check.due("no weight: 0 at the lowest station", x.ballast(99), 0);
         FairBatten y = box(200);
         y.weigh(0, 30);
-        // level at 800 is had by 30 at 8 alone up to 30; by 35 to 39 not nearer
+        // level by a weight w at the station s if w * (s - 4) is 120: 30 at 8, 40 at 7, 60 at 6
         check.due("the ballast", y.ballast(30), 308);
         check.due("trim", y.trim(), 0);
         check.due("the least weight that levels it", y.ballast(99), 308);
@@ -222,6 +226,13 @@ final class FloatingTest {
         check.due("as it was", x.ballast(0), 68);
         x.change(0, 0, 10);
         check.due("it still floats", x.trim(), 600 - 800);
+        FairBatten z = box(200);
+        z.weigh(3, 999);
+        z.weigh(3, 999);
+        z.weigh(3, 999);
+        z.weigh(3, 153);
+        // 50 are borne at most, but 49 and 50 do not level it by a whole number more than 48
+        check.due("up to the last volume", z.ballast(99), 488);
         // the first ballast, 0 at the station 4
         FairBatten y = new FairBatten();
         y.weigh(0, 1);

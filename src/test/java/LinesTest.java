@@ -14,6 +14,7 @@ final class LinesTest {
         halfRefusals(check);
         bends(check);
         fairLines(check);
+        fairLinesOfOld(check);
         fairAtTheEdges(check);
         fairRefusals(check);
         check.finish("LinesTest");
@@ -137,6 +138,29 @@ final class LinesTest {
         check.due("fair by 1", y.fair(5, 1), 6);
         check.due("bend", y.bend(5), 1);
         line(check, y, 5, 0, 1, 2, 3, 5, 7, 9, 11, 13);
+    }
+
+    /** Lines whose fairest ones were found by trying all of them. */
+    private static void fairLinesOfOld(Check check) {
+        int[][] old = {{2, 2, 4, 4, 1, 0, 4, 1, 2}, {1, 1, 3, 2, 0, 3, 0, 3, 0},
+            {2, 36, 66, 96, 113, 122, 132, 133, 132}, {0, 39, 65, 90, 108, 123, 128, 132, 130},
+            {1, 37, 68, 91, 114, 122, 130, 136, 126}, {199, 198, 200, 196, 198, 197, 200, 197, 198},
+            {197, 199, 196, 199, 198, 200, 199, 200, 197}, {0, 8, 20, 30, 40, 50, 60, 70, 80}};
+        int[][] due = {{3, 3, 3, 3, 2, 1, 3, 2, 1}, {1, 1, 1, 1, 1, 1, 1, 1, 1},
+            {4, 37, 68, 94, 112, 123, 130, 133, 134}, {1, 38, 66, 90, 109, 122, 129, 131, 131},
+            {3, 36, 66, 92, 112, 124, 132, 134, 128}, {199, 199, 199, 197, 197, 198, 199, 198, 197},
+            {198, 198, 198, 198, 198, 198, 198, 198, 198}, {0, 10, 20, 30, 40, 50, 60, 70, 80}};
+        int[] tolerance = {1, 2, 2, 1, 2, 1, 2, 2};
+        int[] less = {92, 147, 157, 142, 333, 145, 115, 20};
+        FairBatten x = new FairBatten();
+        for (int which = 0; which < old.length; which++) {
+            int waterline = which % 6;
+            for (int station = 0; station < 9; station++) {
+                x.offset(station, waterline, old[which][station]);
+            }
+            check.due("fair", x.fair(waterline, tolerance[which]), less[which]);
+            line(check, x, waterline, due[which]);
+        }
     }
 
     private static void fairAtTheEdges(Check check) {

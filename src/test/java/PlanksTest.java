@@ -8,6 +8,7 @@ final class PlanksTest {
         lengths(check);
         strakeRefusals(check);
         scarfed(check);
+        lengthAtFirst(check);
         lengthOfPlanks(check);
         firstFit(check);
         order(check);
@@ -83,6 +84,21 @@ final class PlanksTest {
         planksOf(check, x, 0, 0, 0, 1, 2, 3, 4, 5, 6, 7);
         x.launch();
         check.due("planks when it is launched", x.planks(4000), 1);
+    }
+
+    private static void lengthAtFirst(Check check) {
+        int[] line = {0, 200, 0, 200, 0, 121, 121, 121, 121};
+        FairBatten x = new FairBatten();
+        for (int station = 0; station < 9; station++) {
+            x.offset(station, 4, line[station]);
+        }
+        check.due("strake 4", x.strake(4), 1001);
+        planksOf(check, x, 1, 1, 1, 1, 1, 1, 1, 1, 1, 1);
+        for (int station = 5; station < 9; station++) {
+            x.offset(station, 4, 120);
+        }
+        check.due("strake 4", x.strake(4), 1000);
+        planksOf(check, x, 2, 2, 2, 2, 2, 2, 2, 2, 0, 1);
     }
 
     private static void firstFit(Check check) {
