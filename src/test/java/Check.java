@@ -27,30 +27,27 @@ final class Check {
     /** The call throws exactly this kind, and the object answers afterwards as before. */
     void refused(FairBatten x, String name, Class<?> kind, Call call) {
         String before = seen(x);
-        due(name, told(call), kind.getName());
+        due(name, told(call), "throws." + kind.getSimpleName());
         due("what is seen after " + name, seen(x), before);
     }
 
-    /** What a call answers, or the name of what it throws. */
+    /** What a call answers, or "throws." and the name of what it throws. */
     static String told(Call call) {
         try {
             return Long.toString(call.answer());
         } catch (RuntimeException e) {
-            return e.getClass().getName();
+            return "throws." + e.getClass().getSimpleName();
         }
     }
 
-    /** What calls that change nothing show of an object, in few enough calls to ask it often. */
-    static String seen(FairBatten x) {
+    /** What a few calls that change nothing show of an object; Run tells all that it holds. */
+    private static String seen(FairBatten x) {
         StringBuilder all = new StringBuilder();
-        for (int waterline = 0; waterline < 6; waterline++) {
-            all.append(x.bend(waterline)).append(' ').append(x.volume(waterline)).append(' ');
+        for (int waterline = 0; waterline < 3; waterline++) {
             all.append(x.half(4, waterline)).append(' ');
         }
-        all.append(x.draught()).append(' ').append(x.trim()).append(' ');
-        for (int strake = 0; strake < 5; strake++) {
-            all.append(x.plankOf(strake, true)).append(' ');
-        }
+        all.append(x.volume(5)).append(' ').append(x.draught()).append(' ').append(x.trim()).append(' ');
+        all.append(x.plankOf(0, true)).append(' ').append(x.plankOf(4, true)).append(' ');
         return all.append(x.needed()).append(' ').append(x.day()).toString();
     }
 

@@ -1,5 +1,3 @@
-import java.util.Random;
-
 /** Runs of calls, always the same ones, answered by FairBatten as the model answers them. */
 final class ModelTest {
     private static final int RUNS = 400;
@@ -8,7 +6,7 @@ final class ModelTest {
         99, 100, 199, 200, 201, 999, 1000, 4000, 4001, 9000, 9999, 10000, Integer.MAX_VALUE};
 
     private final Check check = new Check();
-    private final Random random;
+    private int drawn;
     private final FairBatten x = new FairBatten();
     private final Model model = new Model();
     // what this run's half breadths, weights and sills are below, so that some hulls float and launch
@@ -17,7 +15,7 @@ final class ModelTest {
     private final int kind;
 
     private ModelTest(int seed) {
-        random = new Random(seed);
+        drawn = 7919 * seed + 1;
         beam = new int[] {3, 20, 201}[seed % 3];
         heft = new int[] {2, 30, 300, 1000}[seed / 3 % 4];
         kind = seed % 5;
@@ -33,7 +31,7 @@ final class ModelTest {
                 run.step();
             }
             all.due("wrong answers of the run " + seed, run.check.wrong(), 0);
-            launches += Check.told(() -> run.x.offset(0, 0, 0)).endsWith("StateException") ? 1 : 0;
+            launches += Check.told(() -> run.model.offset(0, 0, 0)).endsWith("StateException") ? 1 : 0;
         }
         all.due("some are launched, some are not", launches > RUNS / 10 && launches < RUNS ? 1 : 0, 1);
         all.finish("ModelTest");
@@ -42,7 +40,7 @@ final class ModelTest {
     private void fill() {
         for (int station = 0; station < 9; station++) {
             for (int waterline = 0; waterline < 6; waterline++) {
-                int half = kind == 0 ? 0 : random.nextInt(beam);
+                int half = kind == 0 ? 0 : below(beam);
                 if (kind == 1) {
                     half = Math.min(beam - 1, station * waterline);
                 }
@@ -52,90 +50,75 @@ final class ModelTest {
     }
 
     private int odd(int ordinary) {
-        return random.nextInt(40) == 0 ? EDGES[random.nextInt(EDGES.length)] : ordinary;
+        return below(40) == 0 ? EDGES[below(EDGES.length)] : ordinary;
+    }
+
+    /** A number from 0 to one less than this, of a row that each run has for its own. */
+    private int below(int count) {
+        drawn = drawn * 1103515245 + 12345;
+        return (drawn >>> 8) % count;
     }
 
     private void step() {
-        int station = odd(random.nextInt(9));
-        int waterline = odd(random.nextInt(6));
-        switch (random.nextInt(34)) {
-            case 0, 1 -> both("offset", station, waterline, odd(random.nextInt(beam)));
-            case 2 -> both("half", station, waterline, 0);
-            case 3 -> both("bend", waterline, 0, 0);
-            case 4, 5 -> both("fair", waterline, odd(random.nextInt(3)), 0);
-            case 6 -> both("area", station, waterline, 0);
-            case 7 -> both("volume", waterline, 0, 0);
-            case 8 -> both("volumeAnew", waterline, 0, 0);
-            case 9, 10 -> both("weigh", station, odd(random.nextInt(heft)), 0);
-            case 11, 12, 13 -> both("change", odd(random.nextInt(12)), station, odd(random.nextInt(heft)));
-            case 14 -> both("ballast", odd(random.nextInt(100)), 0, 0);
-            case 15, 16 -> both("draught", 0, 0, 0);
-            case 17, 18 -> both("trim", 0, 0, 0);
-            case 19 -> both("strake", odd(random.nextInt(5)), 0, 0);
-            case 20, 21 -> both("planks", odd(100 + random.nextInt(random.nextBoolean() ? 400 : 3901)), 0, 0);
-            case 22, 23 -> both("plankOf", odd(random.nextInt(5)), random.nextInt(2), 0);
-            case 24, 25, 26 -> both("tide", odd(random.nextInt(kind == 2 ? 45 : 500)), odd(random.nextInt(100)), 0);
-            case 27 -> both("sill", odd(random.nextInt(51)), 0, 0);
-            case 28 -> both("needed", 0, 0, 0);
-            case 29, 30 -> both("day", 0, 0, 0);
-            case 31 -> both(random.nextInt(4) == 0 ? "launch" : "day", 0, 0, 0);
-            default -> both("pass", odd(kind == 4 ? 90 + random.nextInt(11) : 1 + random.nextInt(9)), 0, 0);
+        int station = odd(below(9));
+        int waterline = odd(below(6));
+        switch (below(34)) {
+            case 0, 1 -> both("offset", station, waterline, odd(below(beam)));
+            case 2 -> both("half", station, waterline);
+            case 3 -> both("bend", waterline);
+            case 4, 5 -> both("fair", waterline, odd(below(3)));
+            case 6 -> both("area", station, waterline);
+            case 7 -> both("volume", waterline);
+            case 8 -> both("volumeAnew", waterline);
+            case 9, 10 -> both("weigh", station, odd(below(heft)));
+            case 11, 12, 13 -> both("change", odd(below(12)), station, odd(below(heft)));
+            case 14 -> both("ballast", odd(below(100)));
+            case 15, 16 -> both("draught");
+            case 17, 18 -> both("trim");
+            case 19 -> both("strake", odd(below(5)));
+            case 20, 21 -> both("planks", odd(100 + below(below(2) == 0 ? 400 : 3901)));
+            case 22 -> both("plankOf left", odd(below(5)));
+            case 23 -> both("plankOf right", odd(below(5)));
+            case 24, 25, 26 -> both("tide", odd(below(kind == 2 ? 45 : 500)), odd(below(100)));
+            case 27 -> both("sill", odd(below(51)));
+            case 28 -> both("needed");
+            case 29, 30 -> both("day");
+            case 31 -> both(below(4) == 0 ? "launch" : "day");
+            default -> both("pass", odd(kind == 4 ? 90 + below(11) : 1 + below(9)));
         }
     }
 
-    private void both(String name, int a, int b, int c) {
-        String call = name + "(" + a + ", " + b + ", " + c + ")";
-        check.due(call, Check.told(() -> ours(name, a, b, c)), Check.told(() -> due(name, a, b, c)));
+    private void both(String name, int... a) {
+        StringBuilder call = new StringBuilder(name);
+        for (int number : a) {
+            call.append(' ').append(number);
+        }
+        check.due(call.toString(), Calls.told(x, call.toString()), Check.told(() -> due(name, a)));
     }
 
-    private int ours(String name, int a, int b, int c) {
+    private int due(String name, int[] a) {
         return switch (name) {
-            case "offset" -> x.offset(a, b, c);
-            case "half" -> x.half(a, b);
-            case "bend" -> x.bend(a);
-            case "fair" -> x.fair(a, b);
-            case "area" -> x.area(a, b);
-            case "volume" -> x.volume(a);
-            case "volumeAnew" -> x.volumeAnew(a);
-            case "weigh" -> x.weigh(a, b);
-            case "change" -> x.change(a, b, c);
-            case "ballast" -> x.ballast(a);
-            case "draught" -> x.draught();
-            case "trim" -> x.trim();
-            case "strake" -> x.strake(a);
-            case "planks" -> x.planks(a);
-            case "plankOf" -> x.plankOf(a, b == 1);
-            case "tide" -> x.tide(a, b);
-            case "sill" -> x.sill(a);
-            case "needed" -> x.needed();
-            case "day" -> x.day();
-            case "launch" -> x.launch();
-            default -> x.pass(a);
-        };
-    }
-
-    private int due(String name, int a, int b, int c) {
-        return switch (name) {
-            case "offset" -> model.offset(a, b, c);
-            case "half" -> model.half(a, b);
-            case "bend" -> model.bend(a);
-            case "fair" -> model.fair(a, b);
-            case "area" -> model.area(a, b);
-            case "volume", "volumeAnew" -> model.volume(a);
-            case "weigh" -> model.weigh(a, b);
-            case "change" -> model.change(a, b, c);
-            case "ballast" -> model.ballast(a);
+            case "offset" -> model.offset(a[0], a[1], a[2]);
+            case "half" -> model.half(a[0], a[1]);
+            case "bend" -> model.bend(a[0]);
+            case "fair" -> model.fair(a[0], a[1]);
+            case "area" -> model.area(a[0], a[1]);
+            case "volume", "volumeAnew" -> model.volume(a[0]);
+            case "weigh" -> model.weigh(a[0], a[1]);
+            case "change" -> model.change(a[0], a[1], a[2]);
+            case "ballast" -> model.ballast(a[0]);
             case "draught" -> model.draught();
             case "trim" -> model.trim();
-            case "strake" -> model.strake(a);
-            case "planks" -> model.planks(a);
-            case "plankOf" -> model.plankOf(a, b == 1);
-            case "tide" -> model.tide(a, b);
-            case "sill" -> model.sill(a);
+            case "strake" -> model.strake(a[0]);
+            case "planks" -> model.planks(a[0]);
+            case "plankOf left" -> model.plankOf(a[0], false);
+            case "plankOf right" -> model.plankOf(a[0], true);
+            case "tide" -> model.tide(a[0], a[1]);
+            case "sill" -> model.sill(a[0]);
             case "needed" -> model.needed();
             case "day" -> model.day();
             case "launch" -> model.launch();
-            default -> model.pass(a);
+            default -> model.pass(a[0]);
         };
     }
 }
