@@ -314,8 +314,8 @@ final class FloatingEdgesTest {
         run(TERMS, sentence).box(1).gives("weigh 0 3", 0).gives("ballast 1", 18)
                 .refuses("change 1 0 0", Calls.INDEX).gives("weigh 0 0", 1).gives("change 0 0 3", 30)
                 .gives("change 1 0 0", 0);
-        Run full = run(TERMS, sentence).box(200);
-        for (int number = 0; number < 16; number++) {
+        Run full = run(TERMS, sentence).box(200).gives("weigh 1 1", 0).gives("ballast 1", 17);
+        for (int number = 1; number < 16; number++) {
             full.gives("weigh 1 1", number);
         }
         full.gives("ballast 12", 128).gives("trim", 0).refuses("change 16 0 0", Calls.INDEX)
@@ -352,7 +352,9 @@ final class FloatingEdgesTest {
         // 7 would not be borne, and have no trim
         run(TERMS, sentence).box(1).gives("weigh 0 10", 0).gives("ballast 99", 68).gives("draught", 5)
                 .gives("trim", 600 - 800);
-        run(TERMS, sentence).box(1).gives("weigh 0 16", 0).gives("ballast 99", 0).gives("draught", 5);
+        run(TERMS, sentence).box(1).gives("offset 0 0 6", 1).gives("volume 5", 165).gives("weigh 0 10", 0)
+                .gives("ballast 99", 68).gives("change 0 0 16", 100).gives("ballast 99", 0)
+                .gives("draught", 5);
         // so much ballast as was borne before is borne no more, but none is
         run(TERMS, sentence).box(1).gives("weigh 0 10", 0).gives("ballast 99", 68).gives("change 0 0 16", 100)
                 .gives("draught", FairBatten.NONE).gives("ballast 99", 0).gives("draught", 5);

@@ -212,6 +212,11 @@ final class LinesEdgesTest {
                 .hasLine(0, 4, 37, 68, 94, 112, 123, 130, 133, 134);
         run(TERMS, sentence).line(5, 199, 198, 200, 196, 198, 197, 200, 197, 198).gives("fair 5 1", 145)
                 .hasLine(5, 199, 199, 199, 197, 197, 198, 199, 198, 197);
+        // an end that can go but one way, beside a neighbour that has to go the other
+        run(TERMS, sentence).line(0, 0, 3, 10, 15, 20, 25, 30, 37, 40).gives("fair 0 2", 40)
+                .hasLine(0, 0, 5, 10, 15, 20, 25, 30, 35, 40);
+        run(TERMS, sentence).line(1, 3, 0, 0, 0, 0, 0, 0, 0, 3).gives("fair 1 2", 18)
+                .hasLine(1, 1, 1, 1, 1, 1, 1, 1, 1, 1);
     }
 
     private static void lowerFromTheStation0On() {
@@ -224,6 +229,15 @@ final class LinesEdgesTest {
         // 0 stands, so it goes up behind it only as it has to
         run(TERMS, sentence).line(3, 0, 1, 2, 3, 4, 5, 6, 7, 8).gives("fair 3 1", 0)
                 .hasLine(3, 0, 1, 2, 3, 4, 5, 6, 7, 8);
+        // two of the least bend that are alike up to the station 1, .. 2, 3, 4, 5 and 6: the lower one
+        int[][] had = {{4, 0, 0, 2, 2, 6, 4, 2, 2}, {3, 3, 0, 3, 6, 0, 9, 9, 9}, {2, 3, 0, 3, 1, 0, 3, 3, 0},
+            {4, 4, 2, 4, 0, 0, 0, 2, 0}, {1, 1, 3, 2, 3, 0, 0, 0, 1}, {0, 2, 0, 0, 1, 0, 3, 3, 2}};
+        int[][] due = {{3, 1, 0, 1, 3, 5, 5, 3, 1}, {3, 2, 1, 3, 5, 1, 8, 10, 10}, {3, 2, 1, 2, 1, 1, 2, 2, 1},
+            {3, 3, 3, 3, 1, 0, 0, 1, 1}, {2, 2, 2, 2, 2, 1, 0, 0, 0}, {1, 1, 1, 1, 1, 1, 2, 2, 2}};
+        int[] less = {66, 237, 100, 84, 41, 49};
+        for (int which = 0; which < had.length; which++) {
+            run(TERMS, sentence).line(3, had[which]).gives("fair 3 1", less[which]).hasLine(3, due[which]);
+        }
         // of those with one kink of 1 the one that has it latest is lower
         run(TERMS, sentence).line(3, 0, 1, 3, 4, 6, 7, 9, 10, 12).gives("fair 3 1", 6)
                 .hasLine(3, 0, 1, 2, 3, 5, 7, 9, 11, 13);

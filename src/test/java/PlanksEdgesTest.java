@@ -159,7 +159,8 @@ final class PlanksEdgesTest {
         // just so much is enough
         run(TERMS, sentence).gives("planks 160", 5).hasPlanks(0, 0, 1, 1, 2, 2, 3, 3, 4, 4);
         run(TERMS, sentence).gives("planks 159", 10).hasPlanks(0, 1, 2, 3, 4, 5, 6, 7, 8, 9);
-        // back to the first of several, neither the last one nor the one with the least left
+        // the first of several that have enough, be it the one with the most left or not
+        peaks(TERMS, sentence, 110, 65).gives("planks 500", 4).hasPlanks(0, 1, 2, 2, 0, 0, 1, 1, 2, 3);
         peaks(TERMS, sentence, 160, 130, 60, 20, 0).gives("planks 1000", 3)
                 .hasPlanks(0, 0, 1, 1, 0, 1, 1, 2, 2, 2);
         peaks(TERMS, sentence, 60, 50).gives("planks 290", 5).hasPlanks(0, 1, 2, 3, 0, 1, 2, 3, 4, 4);
